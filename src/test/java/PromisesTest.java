@@ -447,6 +447,17 @@ public final class PromisesTest {
         CHECKS.due("eight functions deep", desk.part(path), MarkDesk.NUMBER);
         CHECKS.due("seven deep", desk.part(path / 10), MarkDesk.FUNCTION);
         CHECKS.due("nine deep", desk.part(path * 10 + 3), MarkDesk.NONE);
+        for (int digit = 5; digit <= 9; digit++) {
+            for (int weight = 1, inner = 0; weight <= 1000000; weight *= 10) {
+                CHECKS.due("wrong digit last", desk.part(digit * weight + inner), MarkDesk.NONE);
+                inner = inner * 10 + 3;
+            }
+            CHECKS.due("wrong digit first", desk.part(30 + digit), MarkDesk.NONE);
+        }
+        for (int weight = 10; weight <= 100000; weight *= 10) {
+            CHECKS.due("a 0 between", desk.part(3333333 - 3 * weight), MarkDesk.NONE);
+        }
+        CHECKS.due("a 0 first", desk.part(30), MarkDesk.NONE);
         CHECKS.due("first letter", desk.part(1), MarkDesk.LETTER);
         CHECKS.due("last letter", desk.part(4), MarkDesk.LETTER + 1);
         CHECKS.due("third letter", desk.part(13), MarkDesk.LETTER + 2);
