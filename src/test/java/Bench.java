@@ -141,7 +141,7 @@ final class Bench {
     }
 
     void dueWork(String what, int term, int form, int value, int steps) {
-        checks.due(what + ": work", desk.work(term, 200), form);
+        checks.dueNoThrow(what + ": work", () -> checks.due(what + ": work", desk.work(term, 200), form));
         checks.due(what + ": value", desk.value(), value);
         checks.due(what + ": steps", desk.steps(), steps);
         checks.dueNoThrow(what + ": just enough fuel", () -> desk.work(term, steps));
@@ -169,8 +169,10 @@ final class Bench {
     }
 
     void dueType(String what, int term, String want) {
-        int form = desk.type(term);
-        checks.due(what + ": type and part(0)", Math.min(desk.part(0), MarkDesk.LETTER), form);
+        checks.dueNoThrow(what, () -> {
+            int form = desk.type(term);
+            checks.due(what + ": type and part(0)", Math.min(desk.part(0), MarkDesk.LETTER), form);
+        });
         checks.dueText(what, typeText(), want);
     }
 

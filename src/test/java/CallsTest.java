@@ -67,14 +67,14 @@ public final class CallsTest {
         }
         CHECKS.dueThrow("too high", IllegalStateException.class, () -> desk.make(Bench.SUM, 8, 0, 0));
         CHECKS.dueThrow("too high, a wrong word", IllegalArgumentException.class, () -> desk.make(Bench.SUM, 8, 9, 0));
-        CHECKS.dueThrow("a wrong word, too high", IllegalArgumentException.class, () -> desk.make(Bench.SUM, -1, 8, 0));
+        CHECKS.dueThrow("a wrong word first", IllegalArgumentException.class, () -> desk.make(Bench.SUM, -1, 8, 0));
         for (int i = 9; i < 60; i++) {
             desk.make(Bench.NUM, 0, 0, 0);
         }
         CHECKS.dueThrow("full", IllegalStateException.class, () -> desk.make(Bench.NUM, 1000, 0, 0));
         CHECKS.dueThrow("full, no kind", IllegalArgumentException.class, () -> desk.make(12, 0, 0, 0));
         CHECKS.dueThrow("full, no kind", IllegalArgumentException.class, () -> desk.make(-1, 0, 0, 0));
-        CHECKS.dueThrow("full, a number beyond", IllegalArgumentException.class, () -> desk.make(Bench.NUM, 1001, 0, 0));
+        CHECKS.dueThrow("full, no number", IllegalArgumentException.class, () -> desk.make(Bench.NUM, 1001, 0, 0));
         CHECKS.dueThrow("full, no truth", IllegalArgumentException.class, () -> desk.make(Bench.TRU, 2, 0, 0));
         CHECKS.dueThrow("full, no variable", IllegalArgumentException.class, () -> desk.make(Bench.VAR, 6, 0, 0));
         CHECKS.dueThrow("full, no term", IllegalArgumentException.class, () -> desk.make(Bench.MARK, 60, 0, 0));
@@ -125,7 +125,8 @@ public final class CallsTest {
         return text.toString();
     }
 
-    private static void dueUnchanged(MarkDesk desk, Class<? extends RuntimeException> want, String name, Checks.Call call) {
+    private static void dueUnchanged(MarkDesk desk, Class<? extends RuntimeException> want, String name,
+            Checks.Call call) {
         String before = stateOf(desk);
         CHECKS.dueThrow(name, want, call);
         CHECKS.dueText(name + ": what it changes", stateOf(desk), before);

@@ -58,14 +58,16 @@ public final class FaceTest {
             "public MarkDesk();",
             "public int make(int kind, int a, int b, int c) throws " + argument + ", " + state + ";",
             "public int open(int term) throws " + element + ";",
-            "public int work(int term, int fuel) throws " + element + ", " + index + ", " + argument + ", " + state + ";",
+            "public int work(int term, int fuel) throws " + element + ", " + index + ", " + argument + ", " + state
+                    + ";",
             "public int value();", "public int steps();",
             "public int type(int term) throws " + element + ", " + argument + ";",
             "public int part(int path);", "public int count(int what);", "public float mean();"};
         TreeSet<String> visible = visibleMembers();
         for (String line : due) {
             CHECKS.sentence(SECTION, line);
-            CHECKS.due("there is such a member", visible.remove(line.replaceAll("int [a-z]+([,)])", "int$1")) ? 1 : 0, 1);
+            String withoutNames = line.replaceAll("int [a-z]+([,)])", "int$1");
+            CHECKS.due("there is such a member", visible.remove(withoutNames) ? 1 : 0, 1);
         }
         CHECKS.dueText("other visible members", visible.toString(), "[]");
     }
@@ -81,7 +83,8 @@ public final class FaceTest {
         for (Method method : MarkDesk.class.getDeclaredMethods()) {
             if (isVisible(method)) {
                 visible.add(Modifier.toString(method.getModifiers()) + " " + method.getReturnType().getName() + " "
-                        + method.getName() + inBrackets(method.getParameterTypes()) + thrown(method.getExceptionTypes()));
+                        + method.getName() + inBrackets(method.getParameterTypes())
+                        + thrown(method.getExceptionTypes()));
             }
         }
         for (Field field : MarkDesk.class.getDeclaredFields()) {

@@ -18,6 +18,7 @@ public final class TypeTest {
     }
 
     private static void rules() {
+        fourParts();
         numbersAndTruths();
         variables();
         functions();
@@ -62,6 +63,20 @@ public final class TypeTest {
         longPaths();
     }
 
+    private static void fourParts() {
+        CHECKS.sentence("Terms", "a FUNCTION with four PARTS: 1 what it takes, 2 what the mark around gives if only"
+                + " what is behind the call is done, 3 what it gives, 4 what the mark around gives, the call done.");
+        Bench b = new Bench(CHECKS);
+        int called = b.sum(b.call(b.var(0), b.num(5)), b.num(1));
+        // What the piece gives is added to: it must be a number. A function is what is taken for.
+        int taken = b.take(b.let(called, b.fun(b.var(0))));
+        b.dueType("four of their own", b.fun(b.less(b.when(b.var(0), b.num(1), b.num(2)), taken)), "(T N T (a b a b))");
+        int f = b.fun(b.less(b.var(0), b.take(b.less(called, b.num(1)))));
+        b.dueType("a function that takes", f, "(N N T T)");
+        b.dueType("behind its call a number is made", b.when(b.call(f, b.num(5)), b.num(1), b.num(2)), "T");
+        b.dueNoType("behind its call a truth is made", b.call(f, b.num(5)));
+    }
+
     private static void numbersAndTruths() {
         CHECKS.sentence("Terms", "NUMBER, TRUTH: of their types, from p to p.");
         Bench b = new Bench(CHECKS);
@@ -87,7 +102,8 @@ public final class TypeTest {
 
     private static void functions() {
         CHECKS.sentence("Terms",
-                "FUNCTION: if its body : u, from p to q, with the argument of type t: (1 t, 2 p, 3 u, 4 q), from r to r.");
+                "FUNCTION: if its body : u, from p to q, with the argument of type t: (1 t, 2 p, 3 u, 4 q),"
+                + " from r to r.");
         Bench b = new Bench(CHECKS);
         b.dueType("what it takes and gives", b.fun(b.less(b.var(0), b.num(1))), "(N a T a)");
         // The body takes all away: what it gives, and what the mark gives behind it, may be any.
@@ -110,7 +126,8 @@ public final class TypeTest {
     }
 
     private static void calls() {
-        CHECKS.sentence("Terms", "CALL: if a : (1 t, 2 p, 3 u, 4 q), from r to s, and b : t, from q to r, it : u, from p to s.");
+        CHECKS.sentence("Terms",
+                "CALL: if a : (1 t, 2 p, 3 u, 4 q), from r to s, and b : t, from q to r, it : u, from p to s.");
         Bench b = new Bench(CHECKS);
         b.dueType("of a function", b.call(b.fun(b.var(0)), b.yes()), "T");
         b.dueType("of what is taken", b.fun(b.call(b.var(0), b.num(1))), "((N a b c) a b c)");
@@ -128,7 +145,8 @@ public final class TypeTest {
 
     private static void sumsAndLesses() {
         CHECKS.sentence("Terms",
-                "SUM, LESS: if a : NUMBER, from r to s, and b : NUMBER, from p to r, they : NUMBER, TRUTH, from p to s.");
+                "SUM, LESS: if a : NUMBER, from r to s, and b : NUMBER, from p to r, they : NUMBER, TRUTH,"
+                + " from p to s.");
         Bench b = new Bench(CHECKS);
         int one = b.num(1);
         int fallen = b.take(b.yes());
@@ -210,7 +228,8 @@ public final class TypeTest {
 
     private static void takes() {
         CHECKS.sentence("Terms",
-                "TAKE: if a : t, from t to q, with a piece of t' and p bound (as with VARIABLE: 1 t', 3 p), it : t', from p to q.");
+                "TAKE: if a : t, from t to q, with a piece of t' and p bound (as with VARIABLE: 1 t', 3 p),"
+                + " it : t', from p to q.");
         Bench b = new Bench(CHECKS);
         int five = b.num(5);
         b.dueType("of any type where it stands", b.fun(b.take(five)), "(a b c N)");
@@ -279,7 +298,8 @@ public final class TypeTest {
         b.dueNoType("through two letters", b.fun(b.fun(b.when(b.yes(), b.call(v, b.var(1)), b.call(b.var(1), v)))));
         b.dueNoType("the piece with itself", b.sum(five, b.take(b.call(v, v))));
         b.dueNoType("part 2 of itself", b.fun(b.mark(b.call(v, v))));
-        b.dueType("twice in another is no containing", b.fun(b.call(b.call(v, five), five)), "((N a (N b c a) d) b c d)");
+        b.dueType("twice in another is no containing", b.fun(b.call(b.call(v, five), five)),
+                "((N a (N b c a) d) b c d)");
         b.dueType("the same letter is no containing", b.fun(b.when(b.yes(), v, v)), "(a b a b)");
         b.dueType("a function with its like", b.call(b.fun(v), b.fun(v)), "(a b a b)");
     }
@@ -314,18 +334,19 @@ public final class TypeTest {
     }
 
     /**
-     * A function that calls what it takes with such terms of heights 1, 2, .. up to 2 less than its own, one after
-     * the other: of that height, and its type is about as large as a type can be.
+     * A function that calls what it takes with the first, and what that gives with such functions of heights 2, 3, ..
+     * up to 2 less than its own, one after the other: of that height, and its type is about as large as one can be.
      */
-    private static int wide(Bench b, int height) {
-        if (height == 1) {
-            return b.num(5);
-        }
+    private static int wide(Bench b, int height, int first) {
         int body = b.var(0);
         for (int i = 1; i <= height - 2; i++) {
-            body = b.call(body, wide(b, i));
+            body = b.call(body, i == 1 ? first : wide(b, i, b.num(5)));
         }
         return b.fun(body);
+    }
+
+    private static int wide(Bench b, int height) {
+        return wide(b, height, b.num(5));
     }
 
     private static void typesOfLargeTerms() {
@@ -343,6 +364,7 @@ public final class TypeTest {
         duePart(b, 2, MarkDesk.LETTER + 43);
         duePart(b, 3, MarkDesk.LETTER + 44);
         duePart(b, 4, MarkDesk.LETTER + 45);
+        b.dueNoType("size 110, not the same at one end", b.when(b.yes(), wide(b, 8), wide(b, 8, b.yes())));
         Bench c = new Bench(CHECKS);
         c.dueType("size 120", c.ofSize(120), "N");
         int same = c.fun(c.fun(c.fun(c.fun(c.var(0)))));

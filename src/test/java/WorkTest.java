@@ -19,6 +19,7 @@ public final class WorkTest {
 
     private static void kinds() {
         variablesReachOutwards();
+        functionsBindOne();
         fixBindsTwo();
         letBindsInItsSecondWord();
         sumsWrap();
@@ -69,7 +70,8 @@ public final class WorkTest {
     }
 
     private static void variablesReachOutwards() {
-        CHECKS.sentence("Terms", "that which is bound by the a-th term outwards that binds (0 the nearest");
+        CHECKS.sentence("Terms",
+                "that which is bound by the a-th term outwards that binds (0 the nearest; FIX binds two).");
         for (int a = 0; a <= 5; a++) {
             Bench six = new Bench(CHECKS);
             int whole = six.var(a);
@@ -83,7 +85,15 @@ public final class WorkTest {
         b.dueNumber("past a taking", b.let(b.num(7), b.take(b.var(1))), 7, 5);
         b.dueFunction("the taking's", b.let(b.num(7), b.take(b.var(0))), 5);
         b.dueNumber("past a function", b.let(b.num(7), b.call(b.fun(b.var(1)), b.num(3))), 7, 9);
-        b.dueNumber("the function's", b.let(b.num(7), b.call(b.fun(b.var(0)), b.num(3))), 3, 9);
+        b.dueNumber("past a fix", b.let(b.num(7), b.call(b.fix(b.var(2)), b.num(3))), 7, 9);
+    }
+
+    private static void functionsBindOne() {
+        CHECKS.sentence("Terms", "3 FUNCTION of body a, in which it binds one, the argument.   4 CALL of a with b.");
+        Bench b = new Bench(CHECKS);
+        b.dueNumber("the argument", b.let(b.num(7), b.call(b.fun(b.var(0)), b.num(3))), 3, 9);
+        b.dueNumber("one further out", b.let(b.num(7), b.call(b.fun(b.var(1)), b.num(3))), 7, 9);
+        b.dueNumber("of a with b, not of b with a", b.call(b.fun(b.num(1)), b.fun(b.num(2))), 1, 6);
     }
 
     private static void fixBindsTwo() {
@@ -595,7 +605,8 @@ public final class WorkTest {
 
     private static void meanOfAll() {
         CHECKS.sentence("Promise 10: mean",
-                "Of the values found since the beginning the mean of their steps, as a float: all steps divided by how many");
+                "Of the values found since the beginning the mean of their steps, as a float: all steps divided by"
+                + " how many");
         Bench b = new Bench(CHECKS);
         int five = b.num(5);
         int sum = b.sum(five, five);
