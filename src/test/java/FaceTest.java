@@ -4,6 +4,7 @@ import java.lang.reflect.Member;
 import java.lang.reflect.Method;
 import java.lang.reflect.Modifier;
 import java.util.Arrays;
+import java.util.Set;
 import java.util.TreeSet;
 import java.util.stream.Collectors;
 
@@ -11,6 +12,7 @@ import java.util.stream.Collectors;
 public final class FaceTest {
     private static final Checks CHECKS = new Checks();
     private static final String SECTION = "The public face";
+    private static final Set<String> CONSTANTS = Set.of("NONE", "NUMBER", "TRUTH", "FUNCTION", "LETTER");
 
     private FaceTest() {
     }
@@ -88,7 +90,7 @@ public final class FaceTest {
             }
         }
         for (Field field : MarkDesk.class.getDeclaredFields()) {
-            if (isVisible(field) && !"NONE NUMBER TRUTH FUNCTION LETTER".contains(field.getName())) {
+            if (isVisible(field) && !CONSTANTS.contains(field.getName())) {
                 visible.add(field.toString());
             }
         }
